@@ -16,6 +16,7 @@ public final class PromisesTest {
         hourOfGoingOn();
         hourOfMills();
         hourOfMillsThatFindNoRoom();
+        hourOfCoins();
         hourOfLeaks();
         hourOfWear();
         count();
@@ -25,6 +26,7 @@ public final class PromisesTest {
         worst();
         reaches();
         digest();
+        twentyArches();
         Check.end();
     }
 
@@ -363,6 +365,20 @@ public final class PromisesTest {
         counts("12: the cistern holds only 2", y, 2, 1, 1, 3, 2, 10, 40, 13, 0, 15, 0, 0);
     }
 
+    // 12, step 3
+    private static void hourOfCoins() {
+        ArchWater x = new ArchWater();
+        x.build(200, 40);
+        x.addMill(0, 9);
+        x.setSluice(0, 10);
+        springAlways(x, 40);
+        for (int hour = 0; hour < 12; hour++) {
+            x.pass(1);
+            Check.due("12: flour, 9 in an hour", x.mill(0, 2), 9 * hour);
+            Check.due("12: coins for it", x.count(3), 9 * hour / 10);
+        }
+    }
+
     // 12, step 5
     private static void hourOfLeaks() {
         ArchWater x = new ArchWater();
@@ -654,6 +670,34 @@ public final class PromisesTest {
             }
         }
         Check.due("19: after 50 hours", x.digest(), d);
+    }
+
+    // 2, 12 to 19: as many arches as there can be
+    private static void twentyArches() {
+        ArchWater x = new ArchWater();
+        for (int i = 0; i < 20; i++) {
+            x.build(200 - 10 * i, 40);
+            x.addMill(i, 30);
+        }
+        x.setSpring(0, 5);
+        x.setCity(21, 7);
+        Check.due("20 arches: thirsty()", x.thirsty(), 22);
+        Check.due("20 arches: foresee(20, 2)", x.foresee(20, 2), 0);
+        Check.due("20 arches: foresee(21, 2)", x.foresee(21, 2), 5);
+        x.pass(20);
+        Check.due("20 arches: the water is at the last one", x.arch(19, 2), 5);
+        x.setSluice(19, 10);
+        Check.due("20 arches: foresee(2, 0)", x.foresee(2, 0), 5);
+        Check.due("20 arches: advise(2)", x.advise(2), 19);
+        x.setSluice(19, 0);
+        Check.due("20 arches: the city", x.pass(3), 2);
+        Check.due("20 arches: worst()", x.worst(), -1);
+        x.quake(19, 50);
+        x.pass(20);
+        Check.due("20 arches: before water comes", x.worst(), -1);
+        x.pass(1);
+        Check.due("20 arches: the last one leaks", x.worst(), 19);
+        Check.due("20 arches: mills", x.count(2), 20);
     }
 
     private static void springAlways(ArchWater x, int water) {
