@@ -688,6 +688,7 @@ public final class PromisesTest {
         Check.due("20 arches: the water is at the last one", x.arch(19, 2), 5);
         x.setSluice(19, 10);
         Check.due("20 arches: foresee(2, 0)", x.foresee(2, 0), 5);
+        Check.due("20 arches: foresee(2, 3)", x.foresee(2, 3), 5);
         Check.due("20 arches: advise(2)", x.advise(2), 19);
         x.setSluice(19, 0);
         Check.due("20 arches: the city", x.pass(3), 2);
