@@ -39,7 +39,7 @@ public final class PromisesTest {
         Check.refused(x, "1: arch(0, 0)", Check.INDEX, () -> x.arch(0, 0));
         x.setSpring(0, 7);
         Check.due("1: pass(2)", x.pass(2), 0);
-        counts("1: the spring without arches", x, 2, 0, 0, 0, 0, 0, 7, 7, 0, 0, 0, 0);
+        Seen.counts("1: the spring without arches", x, 2, 0, 0, 0, 0, 0, 7, 7, 0, 0, 0, 0);
     }
 
     // 2
@@ -113,7 +113,7 @@ public final class PromisesTest {
         Check.refused(x, "5: setCistern(-1)", Check.ARGUMENT, () -> x.setCistern(-1));
         Check.refused(x, "5: setCistern(501)", Check.ARGUMENT, () -> x.setCistern(501));
         x.build(200, 40);
-        springAlways(x, 40);
+        Seen.springAlways(x, 40);
         x.pass(5);
         Check.due("5: it holds 100 at first", x.count(4), 100);
         Check.due("5: what it cannot hold stays", x.arch(0, 2), 40);
@@ -137,17 +137,17 @@ public final class PromisesTest {
         x.build(52, 21);
         x.build(25, 22);
         x.build(25, 23);
-        archNumbers("6: an arch", x, 0, 80, 20, 0, 0, 0, 28, 30, 0, 0);
-        archNumbers("6: a slope of 27", x, 1, 52, 21, 0, 0, 0, 27, 29, 0, 0);
-        archNumbers("6: no slope", x, 2, 25, 22, 0, 0, 0, 0, 2, 0, 0);
-        archNumbers("6: the last one", x, 3, 25, 23, 0, 0, 0, 25, 27, 0, 0);
+        Seen.archNumbers("6: an arch", x, 0, 80, 20, 0, 0, 0, 28, 30, 0, 0);
+        Seen.archNumbers("6: a slope of 27", x, 1, 52, 21, 0, 0, 0, 27, 29, 0, 0);
+        Seen.archNumbers("6: no slope", x, 2, 25, 22, 0, 0, 0, 0, 2, 0, 0);
+        Seen.archNumbers("6: the last one", x, 3, 25, 23, 0, 0, 0, 25, 27, 0, 0);
         x.build(10, 24);
-        archNumbers("6: the last one but one", x, 3, 25, 23, 0, 0, 0, 15, 17, 0, 0);
+        Seen.archNumbers("6: the last one but one", x, 3, 25, 23, 0, 0, 0, 15, 17, 0, 0);
         x.addMill(0, 5);
         x.setSpring(0, 19);
         x.quake(0, 17);
         x.pass(1);
-        archNumbers("6: after an hour", x, 0, 80, 20, 16, 17, 2, 28, 30, 3, 1);
+        Seen.archNumbers("6: after an hour", x, 0, 80, 20, 16, 17, 2, 28, 30, 3, 1);
         Check.refused(x, "6: arch(-1, 0)", Check.INDEX, () -> x.arch(-1, 0));
         Check.refused(x, "6: arch(5, 0)", Check.INDEX, () -> x.arch(5, 0));
         Check.refused(x, "6: arch(20, 0)", Check.INDEX, () -> x.arch(20, 0));
@@ -213,13 +213,13 @@ public final class PromisesTest {
         Check.refused(x, "9: mill(0, 4)", Check.INDEX, () -> x.mill(0, 4));
         Check.refused(x, "9: mill(1, 4) without a mill", Check.INDEX, () -> x.mill(1, 4));
         x.pass(1);
-        millNumbers("9: before the water", x, 0, 6, 4, 0, 0);
+        Seen.millNumbers("9: before the water", x, 0, 6, 4, 0, 0);
         x.pass(1);
-        millNumbers("9: 4 tenths of 12", x, 0, 6, 4, 4, 4);
+        Seen.millNumbers("9: 4 tenths of 12", x, 0, 6, 4, 4, 4);
         x.setSluice(0, 0);
-        millNumbers("9: closed since", x, 0, 6, 0, 4, 4);
+        Seen.millNumbers("9: closed since", x, 0, 6, 0, 4, 4);
         x.pass(1);
-        millNumbers("9: an hour later", x, 0, 6, 0, 4, 0);
+        Seen.millNumbers("9: an hour later", x, 0, 6, 0, 4, 0);
     }
 
     // 10
@@ -228,7 +228,7 @@ public final class PromisesTest {
         x.build(200, 40);
         x.addMill(0, 30);
         x.setSluice(0, 10);
-        springAlways(x, 40);
+        Seen.springAlways(x, 40);
         x.quake(0, 1);
         Check.refused(x, "10: mend(0) without a coin", Check.STATE, () -> x.mend(0));
         x.pass(2);
@@ -275,13 +275,13 @@ public final class PromisesTest {
         Check.refused(x, "12: pass(101)", Check.ARGUMENT, () -> x.pass(101));
         x.build(5, 10);
         x.setSpring(0, 14);
-        cityAlways(x, 4);
+        Seen.cityAlways(x, 4);
         Check.due("12: the city drinks before water comes", x.pass(2), 8);
-        counts("12: two hours", x, 2, 1, 0, 0, 7, 3, 14, 4, 0, 0, 0, 8);
+        Seen.counts("12: two hours", x, 2, 1, 0, 0, 7, 3, 14, 4, 0, 0, 0, 8);
         Check.due("12: it drinks what there is", x.pass(2), 0);
-        counts("12: four hours", x, 4, 1, 0, 0, 2, 0, 14, 4, 0, 0, 8, 8);
+        Seen.counts("12: four hours", x, 4, 1, 0, 0, 2, 0, 14, 4, 0, 0, 8, 8);
         Check.due("12: it drinks all that is left", x.pass(1), 2);
-        counts("12: five hours", x, 5, 1, 0, 0, 0, 0, 14, 4, 0, 0, 10, 10);
+        Seen.counts("12: five hours", x, 5, 1, 0, 0, 0, 0, 14, 4, 0, 0, 10, 10);
         Check.due("12: pass(100)", x.pass(100), 4 * 100 - 4 * 10);
         Check.due("12: the hour", x.count(0), 105);
     }
@@ -294,17 +294,17 @@ public final class PromisesTest {
         x.build(5, 3);
         x.setSpring(0, 30);
         x.pass(1);
-        waters("12: the spring", x, 30, 0, 0);
+        Seen.waters("12: the spring", x, 30, 0, 0);
         x.pass(1);
-        waters("12: at most the rate", x, 23, 7, 0);
+        Seen.waters("12: at most the rate", x, 23, 7, 0);
         x.pass(1);
-        waters("12: at most what it can hold", x, 20, 8, 2);
+        Seen.waters("12: at most what it can hold", x, 20, 8, 2);
         x.pass(1);
-        waters("12: the last arch sends first", x, 18, 8, 2);
+        Seen.waters("12: the last arch sends first", x, 18, 8, 2);
         Check.due("12: the cistern then", x.count(4), 2);
         x.setCistern(3);
         x.pass(1);
-        waters("12: what the cistern cannot hold stays", x, 16, 8, 3);
+        Seen.waters("12: what the cistern cannot hold stays", x, 16, 8, 3);
         Check.due("12: the cistern is full", x.count(4), 3);
         Check.due("12: nothing is spilt", x.count(7), 0);
     }
@@ -325,17 +325,17 @@ public final class PromisesTest {
         x.setSpring(0, 40);
         x.pass(2);
         // 14 go on, 7 to the mill; 3 of them come back to the arch 2.
-        waters("12: comes back two further on", x, 26, 7, 3, 0);
-        millNumbers("12: a mill's half", x, 0, 30, 5, 7, 7);
-        counts("12: a mill's half", x, 2, 4, 3, 0, 0, 36, 40, 0, 0, 4, 0, 0);
+        Seen.waters("12: comes back two further on", x, 26, 7, 3, 0);
+        Seen.millNumbers("12: a mill's half", x, 0, 30, 5, 7, 7);
+        Seen.counts("12: a mill's half", x, 2, 4, 3, 0, 0, 36, 40, 0, 0, 4, 0, 0);
         x.pass(1);
         // The mill of the arch 1 takes 4 of the 6 that are 9 tenths of 7: its appetite.
-        millNumbers("12: at most its appetite", x, 1, 4, 9, 4, 4);
-        waters("12: the second hour of mills", x, 12, 7, 6, 5);
-        counts("12: a coin for 14 of flour", x, 3, 4, 3, 1, 0, 30, 40, 0, 0, 10, 0, 0);
+        Seen.millNumbers("12: at most its appetite", x, 1, 4, 9, 4, 4);
+        Seen.waters("12: the second hour of mills", x, 12, 7, 6, 5);
+        Seen.counts("12: a coin for 14 of flour", x, 3, 4, 3, 1, 0, 30, 40, 0, 0, 10, 0, 0);
         x.pass(1);
         // The mill of the arch 3 takes the 2 that go on; 1 of them comes back to the cistern.
-        millNumbers("12: the last mill", x, 3, 30, 10, 2, 2);
+        Seen.millNumbers("12: the last mill", x, 3, 30, 10, 2, 2);
         Check.due("12: its half is in the cistern", x.count(4), 1);
         Check.due("12: the coins for 20 of flour", x.count(3), 2);
         Check.due("12: the flour", x.mill(0, 2), 20);
@@ -352,8 +352,8 @@ public final class PromisesTest {
         x.setSpring(0, 40);
         x.pass(2);
         // 30 go on, 15 to the mill; of the 7 that should come back the arch 2 holds 1.
-        waters("12: the half finds no room", x, 10, 15, 1);
-        counts("12: the half finds no room", x, 2, 3, 1, 1, 0, 26, 40, 6, 0, 8, 0, 0);
+        Seen.waters("12: the half finds no room", x, 10, 15, 1);
+        Seen.counts("12: the half finds no room", x, 2, 3, 1, 1, 0, 26, 40, 6, 0, 8, 0, 0);
 
         ArchWater y = new ArchWater();
         y.build(30, 40);
@@ -362,7 +362,7 @@ public final class PromisesTest {
         y.setSluice(0, 10);
         y.setSpring(0, 40);
         y.pass(2);
-        counts("12: the cistern holds only 2", y, 2, 1, 1, 3, 2, 10, 40, 13, 0, 15, 0, 0);
+        Seen.counts("12: the cistern holds only 2", y, 2, 1, 1, 3, 2, 10, 40, 13, 0, 15, 0, 0);
     }
 
     // 12, step 3
@@ -371,7 +371,7 @@ public final class PromisesTest {
         x.build(200, 40);
         x.addMill(0, 9);
         x.setSluice(0, 10);
-        springAlways(x, 40);
+        Seen.springAlways(x, 40);
         for (int hour = 0; hour < 12; hour++) {
             x.pass(1);
             Check.due("12: flour, 9 in an hour", x.mill(0, 2), 9 * hour);
@@ -421,12 +421,12 @@ public final class PromisesTest {
         x.setSluice(1, 1);
         x.setSpring(21, 40);
         x.pass(23);
-        wears("12: before the hour 23", x, 0, 0, 0, 0);
+        Seen.wears("12: before the hour 23", x, 0, 0, 0, 0);
         x.pass(1);
-        wears("12: the arch 3 has no water, the mill at 2 is closed", x, 1, 2, 1, 0);
+        Seen.wears("12: the arch 3 has no water, the mill at 2 is closed", x, 1, 2, 1, 0);
         x.quake(1, 47);
         x.pass(23);
-        wears("12: before the hour 47", x, 1, 49, 1, 0);
+        Seen.wears("12: before the hour 47", x, 1, 49, 1, 0);
         x.pass(1);
         Check.due("12: at most 50", x.arch(1, 3), 50);
 
@@ -451,8 +451,8 @@ public final class PromisesTest {
         x.addMill(0, 10);
         x.addMill(1, 30);
         x.setSluice(0, 5);
-        springAlways(x, 30);
-        cityAlways(x, 2);
+        Seen.springAlways(x, 30);
+        Seen.cityAlways(x, 2);
         x.quake(0, 10);
         x.pass(6);
         long kept = x.arch(0, 2) + x.arch(1, 2) + x.arch(2, 2);
@@ -478,8 +478,8 @@ public final class PromisesTest {
         x.build(20, 40);
         x.addMill(0, 10);
         x.setSluice(0, 5);
-        springAlways(x, 12);
-        cityAlways(x, 5);
+        Seen.springAlways(x, 12);
+        Seen.cityAlways(x, 5);
         x.quake(1, 9);
         x.pass(20);
         Check.refused(x, "14: foresee(0, 0)", Check.ARGUMENT, () -> x.foresee(0, 0));
@@ -595,7 +595,7 @@ public final class PromisesTest {
         x.setSpring(0, 10);
         x.setSpring(1, 10);
         x.pass(2);
-        waters("17: both stand full", x, 10, 10);
+        Seen.waters("17: both stand full", x, 10, 10);
         Check.due("17: nothing leaked", x.worst(), -1);
         x.setSpring(0, 0);
         x.setSpring(1, 0);
@@ -618,7 +618,7 @@ public final class PromisesTest {
         ArchWater x = new ArchWater();
         Check.dueReal("18: a new object", x.reaches(), 0.0);
         x.build(200, 40);
-        cityAlways(x, 1);
+        Seen.cityAlways(x, 1);
         x.pass(1);
         Check.dueReal("18: nothing given", x.reaches(), 0.0);
         x.setSpring(1, 3);
@@ -699,47 +699,5 @@ public final class PromisesTest {
         x.pass(1);
         Check.due("20 arches: the last one leaks", x.worst(), 19);
         Check.due("20 arches: mills", x.count(2), 20);
-    }
-
-    private static void springAlways(ArchWater x, int water) {
-        for (int hour = 0; hour < 24; hour++) {
-            x.setSpring(hour, water);
-        }
-    }
-
-    private static void cityAlways(ArchWater x, int water) {
-        for (int hour = 0; hour < 24; hour++) {
-            x.setCity(hour, water);
-        }
-    }
-
-    private static void counts(String what, ArchWater x, int... want) {
-        for (int i = 0; i < want.length; i++) {
-            Check.due(what + ": count(" + i + ")", x.count(i), want[i]);
-        }
-    }
-
-    private static void archNumbers(String what, ArchWater x, int arch, int... want) {
-        for (int i = 0; i < want.length; i++) {
-            Check.due(what + ": arch(" + arch + ", " + i + ")", x.arch(arch, i), want[i]);
-        }
-    }
-
-    private static void millNumbers(String what, ArchWater x, int arch, int... want) {
-        for (int i = 0; i < want.length; i++) {
-            Check.due(what + ": mill(" + arch + ", " + i + ")", x.mill(arch, i), want[i]);
-        }
-    }
-
-    private static void waters(String what, ArchWater x, int... want) {
-        for (int i = 0; i < want.length; i++) {
-            Check.due(what + ": water of the arch " + i, x.arch(i, 2), want[i]);
-        }
-    }
-
-    private static void wears(String what, ArchWater x, int... want) {
-        for (int i = 0; i < want.length; i++) {
-            Check.due(what + ": wear of the arch " + i, x.arch(i, 3), want[i]);
-        }
     }
 }

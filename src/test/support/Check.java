@@ -1,3 +1,6 @@
+import java.util.function.Supplier;
+import java.util.function.ToLongFunction;
+
 /** What the project's tests share: each prints what is not as due, and ends with exit code 1 if anything was. */
 final class Check {
     static final Class<? extends RuntimeException> INDEX = IndexOutOfBoundsException.class;
@@ -29,7 +32,7 @@ final class Check {
 
     /** The call throws exactly this kind, and changes nothing. */
     static void refused(ArchWater x, String call, Class<? extends RuntimeException> kind, Runnable run) {
-        long before = x.digest();
+        String before = picture(x);
         Class<?> thrown = null;
         try {
             run.run();
@@ -39,7 +42,46 @@ final class Check {
         if (thrown != kind) {
             tell(call + " threw " + thrown + ", due is " + kind);
         }
-        due(call + ", the digest behind it", x.digest(), before);
+        dueText(call + ", what is seen behind it", picture(x), before);
+    }
+
+    /** The call throws exactly this kind; an object that it was made on goes on like one that never saw it. */
+    static void refused(Supplier<ArchWater> made, String call, Class<? extends RuntimeException> kind,
+            ToLongFunction<ArchWater> run) {
+        ArchWater x = made.get();
+        ArchWater twin = made.get();
+        refused(x, call, kind, () -> run.applyAsLong(x));
+        dueText(call + ", what is seen beside a twin", picture(x), picture(twin));
+        due(call + ", thirst of 100 hours more", x.pass(100), twin.pass(100));
+        dueText(call + ", what is seen 100 hours later", picture(x), picture(twin));
+    }
+
+    /** The call is taken, and answers this. */
+    static void taken(Supplier<ArchWater> made, String call, long want, ToLongFunction<ArchWater> run) {
+        due(call, run.applyAsLong(made.get()), want);
+    }
+
+    /** The call answers this, and changes nothing. */
+    static void looked(Supplier<ArchWater> made, String call, long want, ToLongFunction<ArchWater> run) {
+        ArchWater x = made.get();
+        String before = picture(x);
+        due(call, run.applyAsLong(x), want);
+        dueText(call + ", what is seen behind it", picture(x), before);
+    }
+
+    /**
+     * What is seen of an object. The digest does not tell what the cistern could hold,
+     * but the water that is foreseen in it does.
+     */
+    static String picture(ArchWater x) {
+        StringBuilder text = new StringBuilder();
+        text.append("digest ").append(x.digest());
+        for (int what = 0; what < 4; what++) {
+            text.append(", foreseen ").append(x.foresee(1, what)).append(' ').append(x.foresee(100, what));
+        }
+        text.append(", thirsty ").append(x.thirsty()).append(", advised ").append(x.advise(48));
+        text.append(", worst ").append(x.worst()).append(", reaches ").append(x.reaches());
+        return text.toString();
     }
 
     static void end() {
