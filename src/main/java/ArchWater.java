@@ -25,12 +25,10 @@ public final class ArchWater {
     private static final int FORESEEN_NUMBERS = 4;
     private static final int NONE = -1;
 
-    private final int[] springTable = new int[HOURS_OF_DAY];
-    private final int[] cityTable = new int[HOURS_OF_DAY];
-    private final Aqueduct now = new Aqueduct(springTable, cityTable);
+    private final Aqueduct now = new Aqueduct();
     // What is foreseen is tried out here, so that nothing of the real aqueduct changes;
     // it is made once and used again, so that looking ahead makes no objects.
-    private final Aqueduct trial = new Aqueduct(springTable, cityTable);
+    private final Aqueduct trial = new Aqueduct();
 
     public ArchWater() {
     }
@@ -47,11 +45,11 @@ public final class ArchWater {
     }
 
     public int setSpring(int hour, int water) throws IndexOutOfBoundsException, IllegalArgumentException {
-        return setHour(springTable, hour, water);
+        return setHour(now.springTable, hour, water);
     }
 
     public int setCity(int hour, int water) throws IndexOutOfBoundsException, IllegalArgumentException {
-        return setHour(cityTable, hour, water);
+        return setHour(now.cityTable, hour, water);
     }
 
     public int setCistern(int holds) throws IllegalArgumentException {
@@ -207,8 +205,8 @@ public final class ArchWater {
             d = d * 31 + now.countNumber(what);
         }
         for (int hour = 0; hour < HOURS_OF_DAY; hour++) {
-            d = d * 31 + springTable[hour];
-            d = d * 31 + cityTable[hour];
+            d = d * 31 + now.springTable[hour];
+            d = d * 31 + now.cityTable[hour];
         }
         for (int i = 0; i < now.arches; i++) {
             d = digestArch(d, i);
@@ -351,11 +349,10 @@ public final class ArchWater {
         }
     }
 
-    /** The arches, the cistern and the tallies at one hour. */
+    /** The tables, the arches, the cistern and the tallies at one hour. */
     private static final class Aqueduct {
-        // The tables are the object's own, not copies: no hour changes them.
-        final int[] springTable;
-        final int[] cityTable;
+        final int[] springTable = new int[HOURS_OF_DAY];
+        final int[] cityTable = new int[HOURS_OF_DAY];
         final Arch[] row = new Arch[MOST_ARCHES];
         int arches;
         int hour;
@@ -368,15 +365,15 @@ public final class ArchWater {
         int drunk;
         int thirst;
 
-        Aqueduct(int[] springTable, int[] cityTable) {
-            this.springTable = springTable;
-            this.cityTable = cityTable;
+        Aqueduct() {
             for (int i = 0; i < MOST_ARCHES; i++) {
                 row[i] = new Arch();
             }
         }
 
         void copyFrom(Aqueduct other) {
+            System.arraycopy(other.springTable, 0, springTable, 0, HOURS_OF_DAY);
+            System.arraycopy(other.cityTable, 0, cityTable, 0, HOURS_OF_DAY);
             for (int i = 0; i < other.arches; i++) {
                 row[i].copyFrom(other.row[i]);
             }
